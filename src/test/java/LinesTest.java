@@ -55,6 +55,12 @@ public final class LinesTest {
         reads(one, "1 0", 1, 0);
         reads(one, "1 0\n10 0", -5, 2);
         reads(one, "x 2 0", -3, 2);
+        reads(one, "1".repeat(500), -1, 2);
+        reads(one, " ".repeat(500), 0, 0);
+        reads(one, "1 -1 0\n".repeat(71), 71, 0);
+        reads(one, "x " + "1 ".repeat(248) + "0 ", 1, 0);
+        reads(one, "0 ".repeat(250), -119, 3);
+        reads(one, "x 0 ".repeat(125), -239, 3);
     }
 
     private static void bytesThatCannotStand() {

@@ -289,6 +289,34 @@ public final class PromisesTest {
         x.pop(1);
         x.equation(8L, 0);
         CHECK.answers(x, -1, "follow", 0L, 0L, true);
+        followChain();
+    }
+
+    /** Each clause tells something only when one behind it has: as many rounds as there can be. */
+    private static void followChain() {
+        ParityClauses chain = new ParityClauses(40);
+        for (int v = 39; v > 0; v--) {
+            chain.clause(1L << v, 1L << (v - 1));
+        }
+        chain.clause(1L, 0L);
+        CHECK.answers(chain, (1L << 40) - 1, "follow", 0L, 0L, true);
+        CHECK.answers(chain, 1, "models", 1);
+        chain.clear();
+        chain.clause(0L, 1L << 39);
+        for (int v = 39; v > 0; v--) {
+            chain.equation(1L << v | 1L << (v - 1), 0);
+            chain.clause(1L << v, 1L << (v - 1));
+        }
+        CHECK.answers(chain, (1L << 40) - 1, "follow", 0L, 0L, false);
+        CHECK.answers(chain, -1, "follow", 1L, 0L, false);
+        chain.clear();
+        for (int v = 39; v > 0; v--) {
+            chain.clause(1L << v, 1L << (v - 1));
+        }
+        chain.clause(1L, 0L);
+        chain.equation(3L << 38, 1);
+        CHECK.answers(chain, -1, "follow", 0L, 0L, true);
+        CHECK.answers(chain, 0, "solve", 1);
     }
 
     private static void solveAndModel() {
