@@ -3,6 +3,8 @@ import java.util.Random;
 /** Random runs of calls, each answer compared with the oracle's. The seeds are fixed: each run is the same each time. */
 public final class OracleTest {
     private static final Check CHECK = new Check("OracleTest");
+    /** Nothing is promised of an object beyond these. */
+    private static final int MOST_CALLS = 512;
     private static final long[] ODD = {-1, 0, 1, Long.MAX_VALUE, Long.MIN_VALUE, 1L << 40, 1L << 62, 64};
     private static final String[] WORDS = {"0", "0", "0", "x", "x", "-", " ", "\n", "1", "2", "00", "41", "40", "y", "\u00ff", "x 1 2 0", "1 -1 0"};
 
@@ -22,26 +24,32 @@ public final class OracleTest {
     }
 
     public static void main(String[] args) {
-        for (int seed = 0; seed < 450; seed++) {
+        for (int seed = 0; seed < 1800; seed++) {
             new OracleTest(seed, 1 + seed % 9).small();
         }
-        for (int seed = 1500; seed < 1525; seed++) {
+        for (int seed = 3000; seed < 3030; seed++) {
             new OracleTest(seed, 20 + seed % 21).large();
         }
-        for (int seed = 2000; seed < 2400; seed++) {
+        for (int seed = 4000; seed < 4500; seed++) {
             new OracleTest(seed, 1 + seed % 40).lines();
         }
         CHECK.end();
     }
 
     private void same(String name, Object... args) {
+        if (calls == MOST_CALLS) {
+            return;
+        }
         calls++;
         CHECK.due(run + ", call " + calls + ", " + Check.show(name, args), Check.answer(x, name, args), Check.answer(oracle, name, args));
     }
 
     private void small() {
         int most = 8 + random.nextInt(5);
-        for (int i = 0; i < 70; i++) {
+        for (int i = random.nextInt(40); i > 0; i--) {
+            grow(most, 4);
+        }
+        while (calls < MOST_CALLS) {
             grow(most, 4);
             ask();
         }
@@ -52,7 +60,7 @@ public final class OracleTest {
         for (int i = 0; i < from; i++) {
             grow(60, 1);
         }
-        for (int i = 0; i < 12; i++) {
+        while (calls < MOST_CALLS) {
             grow(60, 6);
             askLinear();
             askClauses(60);
@@ -160,7 +168,7 @@ public final class OracleTest {
     }
 
     private void lines() {
-        for (int i = 0; i < 25; i++) {
+        while (calls < MOST_CALLS) {
             feedText(random.nextInt(60));
             if (random.nextInt(5) == 0) {
                 same("push");

@@ -7,18 +7,19 @@ public final class RoomTest {
     private static final long[] EDGES = {0, 1, 2, 3, 7, 8, 9, 19, 20, 21, 39, 40, 41, 59, 60, 61, 63, 64, 499, 500, 501, 4999, 5000, 5001};
 
     public static void main(String[] args) {
-        for (int seed = 0; seed < 200; seed++) {
-            wild(new Random(seed), new ParityClauses(seed % 43));
+        for (int seed = 0; seed < 250; seed++) {
+            wild(new Random(seed), seed % 43);
         }
         newObjectIsSmall();
         callsMakeNothing();
         CHECK.end();
     }
 
-    private static void wild(Random random, ParityClauses x) {
-        for (int i = 0; i < 512; i++) {
+    private static void wild(Random random, int n) {
+        ParityClauses x = new ParityClauses(n);
+        for (int i = 0; i < 480; i++) {
             try {
-                call(random, x, number(random, x), number(random, x));
+                call(random, x, number(random, n), number(random, n));
                 CHECK.due("a call", "answers", "answers");
             } catch (RuntimeException e) {
                 Class<?> kind = e.getClass();
@@ -29,7 +30,7 @@ public final class RoomTest {
         }
     }
 
-    private static long number(Random random, ParityClauses x) {
+    private static long number(Random random, int n) {
         int kind = random.nextInt(8);
         long edge = EDGES[random.nextInt(EDGES.length)];
         if (kind == 0) {
@@ -38,7 +39,7 @@ public final class RoomTest {
         if (kind == 1) {
             return random.nextBoolean() ? -edge : (random.nextBoolean() ? Long.MIN_VALUE : Long.MAX_VALUE) ^ edge;
         }
-        return kind < 5 ? edge : random.nextLong() & random.nextLong() & (1L << x.count(0)) - 1;
+        return kind < 5 ? edge : random.nextLong() & random.nextLong() & (1L << n) - 1;
     }
 
     private static void call(Random random, ParityClauses x, long a, long b) {
@@ -48,7 +49,7 @@ public final class RoomTest {
             case 2, 3 -> x.clause(a & ~b, b);
             case 4 -> x.clause(a, b);
             case 5 -> x.feed(a, (int) b);
-            case 6 -> Check.feed(x, random.nextBoolean() ? "x 1 0 1 0 " : " 1 -1 0 x 1 -2 0");
+            case 6 -> Check.feed(x, random.nextBoolean() ? "x 1 0 0\n" : "-1 2 0 \n");
             case 7 -> x.read();
             case 8 -> x.push();
             case 9 -> x.pop(random.nextInt(3));
@@ -89,13 +90,16 @@ public final class RoomTest {
     }
 
     private static void callsMakeNothing() {
-        ParityClauses x = new ParityClauses(40);
-        everyCall(x);
+        ParityClauses[] objects = new ParityClauses[200];
+        for (int i = 0; i < objects.length; i++) {
+            objects[i] = new ParityClauses(40);
+        }
+        everyCall(new ParityClauses(40));
         long before = made();
-        for (int i = 0; i < 200; i++) {
+        for (ParityClauses x : objects) {
             everyCall(x);
         }
-        long each = (made() - before) / 200;
+        long each = (made() - before) / objects.length;
         CHECK.due("all calls together make " + each + " bytes, hardly any", each < 500, true);
     }
 
