@@ -232,16 +232,22 @@ public final class ParityClauses {
             throw new IllegalArgumentException("1 .. 5000 nodes");
         }
         freshenRows();
-        latestNodes = 0;
-        int ifZero = modelsWith(variable - 1, false, nodes);
-        if (ifZero == MANY) {
+        search.begin(base);
+        search.start.take(variable - 1, false);
+        search.run(store, nodes, true);
+        latestNodes = search.nodeCount;
+        if (search.cut) {
             return MANY;
         }
-        int ifOne = modelsWith(variable - 1, true, nodes);
-        if (ifOne == MANY) {
+        int ifZero = search.modelCount;
+        search.begin(base);
+        search.start.take(variable - 1, true);
+        search.run(store, nodes, true);
+        latestNodes += search.nodeCount;
+        if (search.cut) {
             return MANY;
         }
-        return ifZero == ifOne ? NONE : ifOne;
+        return search.modelCount == ifZero ? NONE : search.modelCount;
     }
 
     public int gates() {
@@ -305,15 +311,6 @@ public final class ParityClauses {
             gateList.build(store);
             gatesFresh = true;
         }
-    }
-
-    /** 1 or 0, as there is a model with this value or not; MANY, if the nodes do not suffice. */
-    private int modelsWith(int place, boolean one, int limit) {
-        search.begin(base);
-        search.start.take(place, one);
-        search.run(store, limit, true);
-        latestNodes += search.nodeCount;
-        return search.cut ? MANY : search.modelCount;
     }
 
     /** The place of a set's least variable; 64 if it has none. */
@@ -583,7 +580,9 @@ public final class ParityClauses {
 
         /** A reduced equation becomes a row, and its head goes out of the rows before it. */
         private void enter(long row) {
-            int head = leastPlace(row & ~RIGHT);
+            long set = row & ~RIGHT;
+            // leastPlace(), written out: a search stands seven calls deep here already
+            int head = Long.bitCount((set & -set) - 1L);
             if (head >= n) {
                 impossible = impossible || row != 0L;
                 return;

@@ -261,8 +261,10 @@ public final class PromisesTest {
         CHECK.refuses(y, STATE, "feed", 0L, 8);
         CHECK.answers(y, 500, "feed", 0x20202020202030L, 7);
         for (int n = 1; n <= 8; n++) {
-            CHECK.refuses(y, STATE, "feed", 0x20L, n);
+            CHECK.fails(y, STATE, "feed", 0x20L, n);
         }
+        CHECK.refuses(y, STATE, "feed", 0x20L, 1);
+        CHECK.refuses(y, STATE, "feed", 0x20L, 8);
         CHECK.refuses(y, ARGUMENT, "feed", 0x20L, 9);
         CHECK.refuses(y, ARGUMENT, "feed", 0x20L, 0);
         CHECK.answers(y, 2, "read");

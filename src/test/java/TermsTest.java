@@ -615,6 +615,17 @@ public final class TermsTest {
         CHECK.answers(x, 1, "solve", 5);
         CHECK.answers(x, 1, "model");
         CHECK.answers(x, 5, "nodes");
+        // with 1 = 0 two clauses together make a sum that can't be; with 1 = 1 there is none
+        ParityClauses sums = new ParityClauses(3);
+        sums.equation(6L, 1);
+        sums.clause(3L, 0L);
+        sums.clause(5L, 0L);
+        CHECK.answers(sums, 2, "models", 5);
+        CHECK.answers(sums, 5, "nodes");
+        CHECK.answers(sums, 1, "solve", 4);
+        CHECK.answers(sums, 5, "model");
+        CHECK.answers(sums, 1, "must", 1, 2);
+        CHECK.answers(sums, 3, "nodes");
         terms("if all variables are taken, it is a MODEL;");
         x.clause(2L, 0L);
         x.clause(4L, 1L);
