@@ -1,17 +1,22 @@
 import java.lang.management.ManagementFactory;
 import java.util.Random;
 
-/** Calls with any arguments in any state: only exceptions of the document's, and hardly any memory. */
+/** Calls with any arguments in any state: only exceptions of the document's, and no more memory than a run's room has. */
 public final class RoomTest {
     private static final Check CHECK = new Check("RoomTest");
+    /** A run's room has 7.3 million elements, of 8 bytes at most, for 512 calls. */
+    private static final long ROOM_OF_A_CALL = 7_300_000L * 8L / 512L;
+    private static final int TURNS = 20;
+    private static final String[] DEAR = {"equation", "clause", "feed", "read", "push", "pop", "rows", "blame", "solution",
+        "follow", "solve", "models", "must", "gates", "clear"};
     private static final long[] EDGES = {0, 1, 2, 3, 7, 8, 9, 19, 20, 21, 39, 40, 41, 59, 60, 61, 63, 64, 499, 500, 501, 4999, 5000, 5001};
 
     public static void main(String[] args) {
         for (int seed = 0; seed < 250; seed++) {
             wild(new Random(seed), seed % 43);
         }
-        newObjectIsSmall();
-        callsMakeNothing();
+        newObjectsFit();
+        callsFit();
         CHECK.end();
     }
 
@@ -25,7 +30,7 @@ public final class RoomTest {
                 Class<?> kind = e.getClass();
                 CHECK.due("" + e, kind == IllegalArgumentException.class || kind == IllegalStateException.class
                     || kind == IndexOutOfBoundsException.class, true);
-                CHECK.due("thrown by the face", e.getStackTrace()[0].getClassName(), "ParityClauses");
+                CHECK.due("thrown by the class itself", e.getStackTrace()[0].getClassName().split("\\$")[0], "ParityClauses");
             }
         }
     }
@@ -78,51 +83,70 @@ public final class RoomTest {
         return ((com.sun.management.ThreadMXBean) ManagementFactory.getThreadMXBean()).getCurrentThreadAllocatedBytes();
     }
 
-    /** 512 objects of 14,000 elements of 8 bytes would fill the room of a run. */
-    private static void newObjectIsSmall() {
-        ParityClauses[] kept = new ParityClauses[100];
+    /** Even if each call of a run made a new object, they would have to fit in. */
+    private static void newObjectsFit() {
+        ParityClauses[] kept = new ParityClauses[TURNS];
         long before = made();
-        for (int i = 0; i < kept.length; i++) {
+        for (int i = 0; i < TURNS; i++) {
             kept[i] = new ParityClauses(40);
         }
-        long each = (made() - before) / kept.length;
-        CHECK.due("an object has " + each + " bytes, few", each < 40_000, true);
+        fits("a new object", made() - before);
     }
 
-    private static void callsMakeNothing() {
-        ParityClauses[] objects = new ParityClauses[200];
-        for (int i = 0; i < objects.length; i++) {
-            objects[i] = new ParityClauses(40);
+    /** Each call is measured in the state that makes it dear, on objects that have not made it before. */
+    private static void callsFit() {
+        for (String name : DEAR) {
+            dearCall(filled(name), name);
+            ParityClauses[] objects = new ParityClauses[TURNS];
+            for (int i = 0; i < TURNS; i++) {
+                objects[i] = filled(name);
+            }
+            long before = made();
+            for (ParityClauses x : objects) {
+                dearCall(x, name);
+            }
+            fits(name, made() - before);
         }
-        everyCall(new ParityClauses(40));
-        long before = made();
-        for (ParityClauses x : objects) {
-            everyCall(x);
-        }
-        long each = (made() - before) / objects.length;
-        CHECK.due("some 80 calls together make " + each + " bytes, few", each < 200_000, true);
     }
 
-    private static void everyCall(ParityClauses x) {
-        x.clear();
+    private static void fits(String what, long bytes) {
+        CHECK.due(what + " makes " + bytes / TURNS + " bytes, not above " + ROOM_OF_A_CALL, bytes / TURNS <= ROOM_OF_A_CALL, true);
+    }
+
+    /** Searches have 5000 nodes here, the tape has many lines, and for blame() there is a sum that can't be. */
+    private static ParityClauses filled(String name) {
+        ParityClauses x = new ParityClauses(40);
         for (int v = 0; v < 19; v++) {
             x.push();
             x.equation(5L << v | 1L << (v + 20), v & 1);
             x.clause(3L << v, 1L << (v + 15));
         }
-        x.feed(0x7820312032203020L, 8);
-        x.feed(0x31202D3220332030L, 8);
-        x.read();
-        x.rows();
-        x.row(0);
-        x.blame();
-        x.solution(x.solutions() - 1);
-        x.sum(5L);
-        x.follow(1L, 2L, true);
-        x.solve(500);
-        x.models(500);
-        x.must(40, 500);
-        x.gates();
-        x.pop(19);
+        Check.addGate(x, 3L << 38, 0);
+        Check.addGate(x, 3L << 38, 1);
+        Check.feed(x, "x 1 -2 0 1 -2 0 ".repeat(30));
+        if (name.equals("blame")) {
+            x.equation(0L, 1);
+        }
+        return x;
+    }
+
+    private static void dearCall(ParityClauses x, String name) {
+        switch (name) {
+            case "equation" -> x.equation(7L, 1);
+            case "clause" -> x.clause(7L, 8L);
+            case "feed" -> x.feed(0x2020202020202020L, 8);
+            case "read" -> x.read();
+            case "push" -> x.push();
+            case "pop" -> x.pop(19);
+            case "rows" -> x.rows();
+            case "blame" -> x.blame();
+            case "solution" -> x.solution(1L << 20);
+            case "follow" -> x.follow(1L, 2L, true);
+            case "solve" -> x.solve(5000);
+            case "models" -> x.models(5000);
+            case "must" -> x.must(1, 5000);
+            case "gates" -> x.gates();
+            default -> x.clear();
+        }
     }
 }
